@@ -24,6 +24,8 @@ public final class Aislewright {
     private static final int AISLE_STEP = 100;
     /** The start is at position 0 of aisle 0, so it has the number of such a place. */
     private static final int START = 0;
+    /** No route is that long: one by 9 places is made of 10 ways of at most 87 each. */
+    private static final int TOO_LONG = 1000000;
 
     private static final int OPEN = 0;
     private static final int IN_WAVE = 1;
@@ -649,7 +651,7 @@ public final class Aislewright {
 
         int leastByTrying(int products) {
             gather(products);
-            return tryFrom(HOME, everyPlace(), 0, Integer.MAX_VALUE, 0);
+            return tryFrom(HOME, everyPlace(), 0, TOO_LONG, 0);
         }
 
         int throughAisles(int products) {
@@ -725,7 +727,7 @@ public final class Aislewright {
             if (left == 0) {
                 return ways[from][HOME];
             }
-            int least = Integer.MAX_VALUE;
+            int least = TOO_LONG;
             for (int next = 0; next < count; next++) {
                 if (isIn(left, next)) {
                     least = Math.min(least, lengthBy(from, next, left));
@@ -740,7 +742,7 @@ public final class Aislewright {
         }
 
         private int bestNext(int from, int left) {
-            int least = Integer.MAX_VALUE;
+            int least = TOO_LONG;
             int best = 0;
             for (int next = 0; next < count; next++) {
                 if (isIn(left, next) && lengthBy(from, next, left) < least) {

@@ -18,15 +18,22 @@ final class Check {
         try {
             return Integer.toString(call.getAsInt());
         } catch (RuntimeException e) {
-            return "throws." + e.getClass().getSimpleName();
+            return thrown(e);
         }
+    }
+
+    /** The library throws the same classes: what it throws by itself is told apart by where it comes from. */
+    private static String thrown(RuntimeException e) {
+        StackTraceElement[] from = e.getStackTrace();
+        boolean byLibrary = from.length > 0 && from[0].getClassName().contains(".");
+        return (byLibrary ? "thrown by the library: " : "throws.") + e.getClass().getSimpleName();
     }
 
     static String answerOfDouble(DoubleSupplier call) {
         try {
             return Double.toString(call.getAsDouble());
         } catch (RuntimeException e) {
-            return "throws." + e.getClass().getSimpleName();
+            return thrown(e);
         }
     }
 

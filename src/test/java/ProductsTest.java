@@ -69,6 +69,7 @@ public final class ProductsTest {
         Check.due("2: the place left is free", -1, () -> w.put(0, 2, 10));
         Check.due("2: another product is there", Check.STATE, () -> w.put(0, 0, 1));
         Check.due("2: then nothing changed", 210, () -> w.placeOf(0));
+        Check.due("2: product 0 is there", Check.STATE, () -> w.put(2, 2, 10));
         Check.due("2: not at the place of its own number", -1, () -> w.put(3, 0, 3));
         int[][] wrong = {
             {-1, 0, 2}, {20, 0, 2}, {LOW, 0, 2}, {FAR, 0, 2}, {1, -1, 2}, {1, 3, 2}, {1, LOW, 2}, {1, FAR, 2},

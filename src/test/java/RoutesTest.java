@@ -7,6 +7,7 @@ public final class RoutesTest {
         lengthOf();
         lengthByTrying();
         lengthThrough();
+        severalBatches();
         stops();
         stopAt();
         inAisle();
@@ -87,6 +88,8 @@ public final class RoutesTest {
         Aislewright one = oneBatch(4, 6, 2, 306, 301);
         Check.due("20: one aisle as far as the farthest place", 24, () -> one.lengthThrough(0));
         wrongBatches("20", one, one::lengthThrough);
+        Aislewright single = oneBatch(4, 6, 2, 105);
+        Check.due("20: one place", 14, () -> single.lengthThrough(0));
         Aislewright near = oneBatch(4, 6, 2, 302, 301);
         Check.due("20: one aisle, nearer", 16, () -> near.lengthThrough(0));
         Aislewright two = oneBatch(4, 6, 2, 1, 301);
@@ -102,6 +105,33 @@ public final class RoutesTest {
         Check.due("20: six aisles", 106, () -> six.lengthThrough(0));
         Aislewright skipped = oneBatch(6, 10, 4, 203, 402);
         Check.due("20: aisles without places are passed by", 54, () -> skipped.lengthThrough(0));
+    }
+
+    private static void severalBatches() {
+        Aislewright w = at(4, 10, 2, 3, 105, 209, 310, 1);
+        w.setCapacity(2);
+        int[][] products = {{3, 2}, {0, 1}, {4}};
+        for (int number = 0; number < products.length; number++) {
+            w.order(0);
+            for (int product : products[number]) {
+                w.line(number, product, 1);
+            }
+        }
+        Check.due("22: three batches", 3, () -> w.planWave(0));
+        String[] routes = {"209 310", "3 105", "1"};
+        int[] lengths = {34, 20, 2};
+        int[] through = {34, 26, 2};
+        for (int batch = 0; batch < routes.length; batch++) {
+            int number = batch;
+            Check.same("22: the route of batch " + batch, routes[batch], routeOf(w, batch));
+            Check.due("18: the length of batch " + batch, lengths[batch], () -> w.lengthOf(number));
+            Check.due("19: the same by trying", lengths[batch], () -> w.lengthByTrying(number));
+            Check.due("21: its stops", routes[batch].split(" ").length, () -> w.stops(number));
+        }
+        for (int batch = 0; batch < routes.length; batch++) {
+            int number = batch;
+            Check.due("20: through aisles in batch " + batch, through[batch], () -> w.lengthThrough(number));
+        }
     }
 
     private static void stops() {
