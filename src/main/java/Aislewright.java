@@ -24,7 +24,7 @@ public final class Aislewright {
     private static final int AISLE_STEP = 100;
     /** The start is at position 0 of aisle 0, so it has the number of such a place. */
     private static final int START = 0;
-    /** No route is that long: one by 9 places is made of 10 ways of at most 87 each. */
+    /** No route is that long: one by 9 places is made of 10 ways of at most 66 each. */
     private static final int TOO_LONG = 1000000;
 
     private static final int OPEN = 0;
