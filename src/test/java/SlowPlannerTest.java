@@ -32,7 +32,7 @@ public final class SlowPlannerTest {
         int aisles = about(1, 6);
         int positions = some(2) == 0 ? about(1, 20) : about(3, 8);
         int gap = about(1, 9);
-        Aislewright w = new Aislewright(aisles, positions, gap);
+        Driver w = new Driver(aisles, positions, gap);
         SlowPlanner due = new SlowPlanner(aisles, positions, gap);
         int deep = Math.max(1, Math.min(20, positions));
         int wide = Math.max(1, Math.min(6, aisles));
@@ -83,42 +83,11 @@ public final class SlowPlannerTest {
         }
     }
 
-    private static void both(int run, int number, String call, int[] a, Aislewright w, SlowPlanner due) {
+    private static void both(int run, int number, String call, int[] a, Driver w, SlowPlanner due) {
         String what = "run " + run + ", call " + number + ": " + call + java.util.Arrays.toString(a);
-        if (call.equals("share")) {
-            Check.same(what, Check.answerOfDouble(due::share), Check.answerOfDouble(w::share));
-        } else {
-            Check.same(what, Check.answer(() -> slow(due, call, a)), Check.answer(() -> quick(w, call, a)));
-        }
-    }
-
-    private static int quick(Aislewright w, String call, int[] a) {
-        switch (call) {
-            case "put": return w.put(a[0], a[1], a[2]);
-            case "layOut": return w.layOut();
-            case "placeOf": return w.placeOf(a[0]);
-            case "turnover": return w.turnover(a[0]);
-            case "distance": return w.distance(a[0], a[1]);
-            case "order": return w.order(a[0]);
-            case "line": return w.line(a[0], a[1], a[2]);
-            case "orders": return w.orders();
-            case "stateOf": return w.stateOf(a[0]);
-            case "lengthAlone": return w.lengthAlone(a[0]);
-            case "setCapacity": return w.setCapacity(a[0]);
-            case "planWave": return w.planWave(a[0]);
-            case "pick": return w.pick(a[0]);
-            case "batches": return w.batches();
-            case "batchOf": return w.batchOf(a[0]);
-            case "linesOf": return w.linesOf(a[0]);
-            case "lengthOf": return w.lengthOf(a[0]);
-            case "lengthByTrying": return w.lengthByTrying(a[0]);
-            case "lengthThrough": return w.lengthThrough(a[0]);
-            case "stops": return w.stops(a[0]);
-            case "stopAt": return w.stopAt(a[0], a[1]);
-            case "inAisle": return w.inAisle(a[0]);
-            case "walked": return w.walked();
-            default: throw new UnsupportedOperationException(call);
-        }
+        boolean isDouble = call.equals("share");
+        String answer = isDouble ? Check.answerOfDouble(due::share) : Check.answer(() -> slow(due, call, a));
+        Check.same(what, answer, w.answer(call, a));
     }
 
     private static int slow(SlowPlanner due, String call, int[] a) {
