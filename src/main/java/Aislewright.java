@@ -551,7 +551,7 @@ public final class Aislewright {
             Batch one = batches.get(number);
             Batch other = batches.get(otherNumber);
             int saving = 0;
-            if (one != other && one.lines + other.lines <= capacity) {
+            if (number != otherNumber && one.lines + other.lines <= capacity) {
                 saving = one.length + other.length - router.leastLength(one.products | other.products);
             }
             savings[one.row][other.row] = saving;
@@ -651,7 +651,7 @@ public final class Aislewright {
 
         int leastByTrying(int products) {
             gather(products);
-            return tryFrom(HOME, everyPlace(), 0, TOO_LONG, 0);
+            return tryFrom(ways, HOME, everyPlace(), 0, TOO_LONG, 0);
         }
 
         int throughAisles(int products) {
@@ -754,16 +754,19 @@ public final class Aislewright {
         }
 
         /** The least length of all routes that begin as told; the least so far where none is less. */
-        private int tryFrom(int from, int left, int gone, int leastSoFar, int depth) {
-            if (left == 0 || depth >= MOST_CAPACITY) {
+        private static int tryFrom(int[][] ways, int from, int left, int gone, int leastSoFar, int depth) {
+            if (left == 0) {
                 return Math.min(leastSoFar, gone + ways[from][HOME]);
             }
+            if (depth >= MOST_TRIED) {
+                return leastSoFar;
+            }
             int least = leastSoFar;
-            for (int next = 0; next < count; next++) {
+            for (int next = 0; next < MOST_CAPACITY; next++) {
                 int length = gone + ways[from][next];
                 // What is too long already gets no shorter, so orders that begin so are passed over.
                 if (isIn(left, next) && length < least) {
-                    least = tryFrom(next, left ^ 1 << next, length, least, depth + 1);
+                    least = tryFrom(ways, next, left ^ 1 << next, length, least, depth + 1);
                 }
             }
             return least;
